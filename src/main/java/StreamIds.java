@@ -305,7 +305,7 @@ public final class StreamIds {
         private static final int MOST_BRACKETS = 3;
 
         static boolean isType(Text text) {
-            return text.length > 0 && endOfType(text, 0) == text.length;
+            return endOfType(text, 0) == text.length;
         }
 
         static boolean isMethod(Text text) {
@@ -461,6 +461,7 @@ public final class StreamIds {
             for (int i = place; i < used; i++) {
                 entries[i] = entries[i + 1];
             }
+            // Kept behind the others, or one entry would stand in two places.
             entries[used] = spare;
             return used;
         }
@@ -640,14 +641,14 @@ public final class StreamIds {
         long firstEightReversed() {
             long low = reversed(numbers[0]) & 0xFFFFFFFFL;
             long high = reversed(numbers[1]);
-            return high << 32 | low;
+            return (high << 32) | low;
         }
 
         private void fillWords(Layout layout, int from, int paddedLength) {
             for (int t = 0; t < 16; t++) {
                 int word = 0;
                 for (int i = 0; i < 4; i++) {
-                    word = word << 8 | paddedAt(layout, from + 4 * t + i, paddedLength);
+                    word = (word << 8) | paddedAt(layout, from + 4 * t + i, paddedLength);
                 }
                 words[t] = word;
             }
@@ -665,7 +666,7 @@ public final class StreamIds {
             }
             int behind = paddedLength - 1 - place;
             // The number of bits is an int, so the upper four of its eight bytes are 0.
-            return behind < 4 ? 8 * layout.length >>> 8 * behind & 0xFF : 0;
+            return behind < 4 ? ((8 * layout.length) >>> (8 * behind)) & 0xFF : 0;
         }
 
         private void mixWords() {
@@ -691,20 +692,21 @@ public final class StreamIds {
 
         private static int chosen(int t, int b, int c, int d) {
             if (t < 20) {
-                return b & c | ~b & d;
+                return (b & c) | (~b & d);
             }
             if (t >= 40 && t < 60) {
-                return b & c | b & d | c & d;
+                return (b & c) | (b & d) | (c & d);
             }
             return b ^ c ^ d;
         }
 
         private static int turned(int number, int bits) {
-            return number << bits | number >>> 32 - bits;
+            return (number << bits) | (number >>> (32 - bits));
         }
 
         private static int reversed(int number) {
-            return number << 24 | (number & 0xFF00) << 8 | number >>> 8 & 0xFF00 | number >>> 24;
+            return (number << 24) | ((number & 0xFF00) << 8) | ((number >>> 8) & 0xFF00)
+                    | (number >>> 24);
         }
     }
 }

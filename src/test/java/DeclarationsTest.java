@@ -11,6 +11,7 @@ public final class DeclarationsTest {
         twice();
         fullMembers();
         removing();
+        removingThenAdding();
         removingByWhatCounts();
         declaring();
         counting();
@@ -160,6 +161,22 @@ public final class DeclarationsTest {
         CHECK.due("no interface is removed", x.count(0, 0), 1);
         CHECK.due("it comes back", Check.field(x, 0, "b", "J", 0), 3);
         CHECK.due("with the new shape", x.byteAt(0, x.part(0, 2) + 19), 'J');
+    }
+
+    private static void removingThenAdding() {
+        String[] names = {"a", "b", "c"};
+        for (String gone : names) {
+            StreamIds x = withClass();
+            StringBuilder due = new StringBuilder("{00}{01}C{00}{00}{00}{00}");
+            for (String name : names) {
+                Check.field(x, 0, name, "I", 0);
+                due.append(name.equals(gone) ? "" : "{00}{01}" + name + "{00}{00}{00}{00}{00}{01}I");
+            }
+            Check.remove(x, 0, 0, gone, "");
+            Check.field(x, 0, "d", "J", 1);
+            due.append("{00}{01}d{00}{00}{00}{01}{00}{01}J");
+            CHECK.due("d for " + gone, Check.readable(Check.bytes(x, 0)), due.toString());
+        }
     }
 
     private static void removingByWhatCounts() {
