@@ -2,20 +2,39 @@
 final class Check {
     private int done = 0;
     private int wrong = 0;
+    private String sentence = "";
+    private int doneBeforeSentence = -1;
+
+    /** The words of the document that the answers from here on are due to. */
+    void sentence(String words) {
+        endSentence();
+        sentence = "\"" + words + "\": ";
+        doneBeforeSentence = done;
+    }
 
     void due(String call, long got, long want) {
         done++;
         if (got != want) {
-            wrong++;
-            System.out.println(call + " answered " + got + ", due is " + want);
+            tellWrong(call + " answered " + got + ", due is " + want);
         }
     }
 
     void due(String what, String got, String want) {
         done++;
         if (!got.equals(want)) {
-            wrong++;
-            System.out.println(what + " is " + got + ", due is " + want);
+            tellWrong(what + " is " + got + ", due is " + want);
+        }
+    }
+
+    private void tellWrong(String text) {
+        wrong++;
+        System.out.println(sentence + text);
+    }
+
+    /** A sentence that nothing was asked about would pass whatever the program does. */
+    private void endSentence() {
+        if (done == doneBeforeSentence) {
+            tellWrong("nothing was tested");
         }
     }
 
@@ -24,6 +43,7 @@ final class Check {
     }
 
     void end() {
+        endSentence();
         System.out.println(done + " answers, " + wrong + " of them wrong");
         if (wrong != 0 || done == 0) {
             System.exit(1);
