@@ -23,6 +23,7 @@ public final class AnswerEdgesTest {
         dotsForSlashes();
         padding();
         manyBytes();
+        wrapping();
         whichIdentifier();
         bytesOfIdentifier();
         whichNumberOfHash();
@@ -132,28 +133,34 @@ public final class AnswerEdgesTest {
 
     private static void abstractInterfaces() {
         CHECK.sentence("if 512 is set: 1024 exactly if it has METHODS (of any MODIFIERS)");
-        for (int given : new int[] {512, 512 | 1024}) {
-            StreamIds x = withClass(given);
-            CHECK.due("without methods", x.byteAt(0, 5), 2);
-            Check.constructor(x, 0, "()V", 0);
-            CHECK.due("with a constructor", x.byteAt(0, 5), 2);
-            Check.method(x, 0, "m", "()V", 2);
-            CHECK.due("with a private method", x.byteAt(0, 5), 6);
-            Check.remove(x, 0, 2, "m", "()V");
-            CHECK.due("without it", x.byteAt(0, 5), 2);
+        for (int others : new int[] {0, 1, 16, 1 | 16}) {
+            for (int given : new int[] {512, 512 | 1024}) {
+                StreamIds x = withClass(given | others);
+                CHECK.due("without methods", classNumber(x), 512 | others);
+                Check.constructor(x, 0, "()V", 0);
+                CHECK.due("with a constructor", classNumber(x), 512 | others);
+                Check.method(x, 0, "m", "()V", 2);
+                CHECK.due("with a private method", classNumber(x), 512 | 1024 | others);
+                Check.remove(x, 0, 2, "m", "()V");
+                CHECK.due("without it", classNumber(x), 512 | others);
+            }
+            for (int given : new int[] {0, 1024}) {
+                StreamIds x = withClass(given | others);
+                CHECK.due("a class without methods", classNumber(x), given | others);
+                Check.method(x, 0, "m", "()V", 1024);
+                CHECK.due("a class with a method", classNumber(x), given | others);
+            }
         }
-        for (int given : new int[] {0, 1024}) {
-            StreamIds x = withClass(given);
-            CHECK.due("a class without methods", x.byteAt(0, 5), given >> 8);
-            Check.method(x, 0, "m", "()V", 1024);
-            CHECK.due("a class with a method", x.byteAt(0, 5), given >> 8);
-        }
+    }
+
+    private static int classNumber(StreamIds x) {
+        return x.byteAt(0, 3) << 24 | x.byteAt(0, 4) << 16 | x.byteAt(0, 5) << 8 | x.byteAt(0, 6);
     }
 
     private static void hiddenFields() {
         CHECK.sentence("of each FIELD but those that are private and (static or transient)");
         int[][] modifiersAndSize = {{0, 17}, {2, 17}, {8, 17}, {128, 17}, {8 | 128, 17}, {2 | 8, 7},
-            {2 | 128, 7}, {2 | 8 | 128, 7}, {2 | 16 | 64, 17}, {4 | 8, 17}, {-1, 7}};
+            {2 | 128, 7}, {2 | 8 | 128, 7}, {2 | 1, 17}, {2 | 4, 17}, {2 | 16, 17}, {2 | 64, 17}, {-1, 7}};
         for (int[] each : modifiersAndSize) {
             StreamIds x = withClass(0);
             Check.field(x, 0, "f", "I", each[0]);
@@ -263,6 +270,17 @@ public final class AnswerEdgesTest {
         ByteBuffer due = ByteBuffer.wrap(Oracle.sha(longestBytes()));
         for (int k = 0; k < 5; k++) {
             CHECK.due("hash " + k, x.hash(0, k), due.getInt(4 * k));
+        }
+    }
+
+    private static void wrapping() {
+        CHECK.sentence("With the ints (all wrapping) H0 .. H4; turned left by 1 bit, by 5, by 30");
+        for (char sign = 33; sign <= 126; sign++) {
+            StreamIds x = new StreamIds();
+            Check.define(x, 0, "" + sign, 1);
+            Check.face(x, 0, LONGEST.replace('a', sign));
+            Check.face(x, 0, LONGEST.replace('x', sign));
+            hashIsDue(x, "names with " + sign);
         }
     }
 

@@ -16,6 +16,7 @@ public final class BufferEdgesTest {
         atTheEnd();
         wrongSignInEachByte();
         tooLong();
+        zerosTakeNoRoom();
         lengths();
         emptied();
         howLongItWas();
@@ -25,8 +26,11 @@ public final class BufferEdgesTest {
 
     private static String nameOf(StreamIds x) {
         x.define(0, 0);
-        String all = Check.readable(Check.bytes(x, 0));
-        return all.substring("{00}{00}".length(), all.length() - "{00}{00}{00}{00}".length());
+        StringBuilder name = new StringBuilder();
+        for (int i = 2; i < x.size(0) - 4; i++) {
+            name.append((char) x.byteAt(0, i));
+        }
+        return name.toString();
     }
 
     private static void whichBuffers() {
@@ -157,6 +161,18 @@ public final class BufferEdgesTest {
         CHECK.due("none of them was put", nameOf(x), LONGEST.substring(0, 23));
         CHECK.due("one has room", x.type(0, 'x'), 24);
         CHECK.due("it was put", nameOf(x), LONGEST);
+    }
+
+    private static void zerosTakeNoRoom() {
+        CHECK.sentence("those that are 0 left out (before it is seen whether it would be too long)");
+        long[] spread = {0, 0x6100L, 0x6100000061000000L, 0x6100610000006100L, 0x6100610061006100L};
+        for (int more = 0; more < spread.length; more++) {
+            StreamIds x = new StreamIds();
+            Check.put(x, 0, LONGEST.substring(0, 24 - more));
+            CHECK.due(more + " signs that just have room", x.type(0, spread[more]), 24);
+            Check.put(x, 0, LONGEST.substring(0, 25 - Math.max(1, more)));
+            CHECK.due("one too many", x.type(0, spread[more]), more == 0 ? 24 : FULL);
+        }
     }
 
     private static void lengths() {

@@ -66,7 +66,8 @@ public final class ShapeEdgesTest {
 
     private static void namesWithoutEnd() {
         CHECK.sentence(".. and ;");
-        types(false, "La", "Lab", "LI", "[La", "La:");
+        types(false, "La", "Lab", "LI", "[La", "La:", "La[", "La(", "La)", "La.");
+        methods(false, "(La)V", "(La.)V", "(La[)V", "(La()V", "(La))V", "()La", "()La.", "()La)");
     }
 
     private static void signsThatNoNameHas() {
